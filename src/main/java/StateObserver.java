@@ -167,10 +167,8 @@ public final class StateObserver {
                 return now.reading[k];
             case 1:
                 return now.age[k];
-            case 2:
-                return plant.quantized(k, plant.least(plant.c[k], now, NO_STATE));
             default:
-                return plant.quantized(k, plant.greatest(plant.c[k], now, NO_STATE));
+                return plant.quantized(k, plant.extreme(plant.c[k], now, NO_STATE, what == 3));
         }
     }
 
@@ -400,8 +398,7 @@ public final class StateObserver {
             throw new IndexOutOfBoundsException("no such combination");
         }
         plant.putCombination(q, row);
-        long value = upper ? plant.greatest(row, now, NO_STATE) : plant.least(row, now, NO_STATE);
-        return (int) value;
+        return (int) plant.extreme(row, now, NO_STATE, upper);
     }
 
     // ---- scripts, simulations
@@ -514,7 +511,11 @@ public final class StateObserver {
             case 2:
                 return advancesCopy(command / 10 % 100, command % 10, -1);
             case 3:
-                return most < 10 && who == 0 && observesCopy(most);
+                if (who != 0 || !isOutput(most)) {
+                    return false;
+                }
+                motion.observe(plant, copy, most);
+                return true;
             case 4:
                 return isState(who) && copy.upper[who] - copy.lower[who] <= most;
             case 5:
@@ -537,22 +538,10 @@ public final class StateObserver {
         return true;
     }
 
-    private boolean observesCopy(int k) {
-        if (!isOutput(k)) {
-            return false;
-        }
-        motion.observe(plant, copy, k);
-        return true;
-    }
-
     // ---- arithmetic
 
     private static long floorQuotient(long value, long divisor) {
         return divisor == 0 ? 0 : Math.floorDiv(value, divisor);
-    }
-
-    private static long ceilingQuotient(long value, long divisor) {
-        return -floorQuotient(-value, divisor);
     }
 
     private static int remainder(int value, int divisor) {
@@ -629,23 +618,13 @@ public final class StateObserver {
             return sum;
         }
 
-        /** The least value of a combination over the intervals, without the state that is left out. */
-        long least(int[] factors, Moment m, int leftOut) {
+        /** The least or the greatest value of a combination over the intervals, without the state that is left out. */
+        long extreme(int[] factors, Moment m, int leftOut, boolean greatest) {
             long sum = 0;
             for (int j = 0; j < n; j++) {
                 if (j != leftOut) {
-                    sum += (long) factors[j] * (factors[j] > 0 ? m.lower[j] : m.upper[j]);
-                }
-            }
-            return sum;
-        }
-
-        /** The greatest value of a combination over the intervals, without the state that is left out. */
-        long greatest(int[] factors, Moment m, int leftOut) {
-            long sum = 0;
-            for (int j = 0; j < n; j++) {
-                if (j != leftOut) {
-                    sum += (long) factors[j] * (factors[j] > 0 ? m.upper[j] : m.lower[j]);
+                    boolean atUpper = factors[j] > 0 == greatest;
+                    sum += (long) factors[j] * (atUpper ? m.upper[j] : m.lower[j]);
                 }
             }
             return sum;
@@ -847,8 +826,8 @@ public final class StateObserver {
         private void advanceIntervals(Plant plant, Moment m, int u) {
             // all sums come first, for each of them needs all bounds before the step
             for (int i = 0; i < plant.n; i++) {
-                m.lastLow[i] = (int) floorQuotient(plant.least(plant.a[i], m, NO_STATE), SCALE);
-                m.lastHigh[i] = (int) floorQuotient(plant.greatest(plant.a[i], m, NO_STATE), SCALE);
+                m.lastLow[i] = (int) floorQuotient(plant.extreme(plant.a[i], m, NO_STATE, false), SCALE);
+                m.lastHigh[i] = (int) floorQuotient(plant.extreme(plant.a[i], m, NO_STATE, true), SCALE);
             }
             for (int i = 0; i < plant.n; i++) {
                 int known = plant.b[i] * u;
@@ -902,33 +881,31 @@ public final class StateObserver {
 
         private int makePass(Plant plant, Moment m) {
             int outcome = UNCHANGED;
-            for (int k = 0; k < plant.p && outcome != EMPTY; k++) {
-                if (m.age[k] == 0) {
-                    outcome = Math.max(outcome, apply(plant, m, k));
-                }
-            }
-            return outcome;
-        }
-
-        /** Cuts all intervals down to the condition of a fresh output; the worst outcome counts. */
-        private int apply(Plant plant, Moment m, int k) {
-            int outcome = UNCHANGED;
-            for (int j = 0; j < plant.n && outcome != EMPTY; j++) {
-                if (plant.c[k][j] != 0) {
+            for (int k = 0; k < plant.p; k++) {
+                for (int j = 0; j < plant.n && m.age[k] == 0; j++) {
                     outcome = Math.max(outcome, cutDown(plant, m, k, j));
+                    if (outcome == EMPTY) {
+                        return EMPTY;
+                    }
                 }
             }
             return outcome;
         }
 
+        /** Cuts the interval of a state down to the values that the condition of an output allows. */
         private int cutDown(Plant plant, Moment m, int k, int j) {
             int[] factors = plant.c[k];
-            int factor = factors[j];
+            long factor = factors[j];
+            if (factor == 0) {
+                return UNCHANGED;
+            }
             long first = (long) plant.quantum[k] * m.reading[k];
-            long leastProduct = first - plant.greatest(factors, m, j);
-            long greatestProduct = first + plant.quantum[k] - 1 - plant.least(factors, m, j);
-            long from = ceilingQuotient(factor > 0 ? leastProduct : greatestProduct, factor);
-            long to = floorQuotient(factor > 0 ? greatestProduct : leastProduct, factor);
+            long last = first + plant.quantum[k] - 1;
+            long leastProduct = first - plant.extreme(factors, m, j, true);
+            long greatestProduct = last - plant.extreme(factors, m, j, false);
+            // the first quotient is rounded up, the second one down
+            long from = -Math.floorDiv(-(factor > 0 ? leastProduct : greatestProduct), factor);
+            long to = Math.floorDiv(factor > 0 ? greatestProduct : leastProduct, factor);
             from = Math.max(from, m.lower[j]);
             to = Math.min(to, m.upper[j]);
             if (from > to) {
@@ -987,14 +964,18 @@ public final class StateObserver {
 
         private void takeState(int i) {
             takeCharacter('r', 'r');
-            takeNumbers(plant.a[i]);
+            for (int j = 0; j < plant.n; j++) {
+                plant.a[i][j] = takeNumber();
+            }
             plant.b[i] = takeNumber();
             plant.e[i] = takeNumber();
         }
 
         private void takeOutput(int k) {
             takeCharacter('o', 'o');
-            takeNumbers(plant.c[k]);
+            for (int j = 0; j < plant.n; j++) {
+                plant.c[k][j] = takeNumber();
+            }
             plant.quantum[k] = takeTwoDigits(1);
         }
 
@@ -1003,12 +984,6 @@ public final class StateObserver {
             int i = takeDigit(0, plant.n - 1);
             int k = takeDigit(0, plant.p - 1);
             start.gain[i][k] = takeNumber();
-        }
-
-        private void takeNumbers(int[] numbers) {
-            for (int j = 0; j < plant.n; j++) {
-                numbers[j] = takeNumber();
-            }
         }
 
         private int takeNumber() {

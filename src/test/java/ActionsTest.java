@@ -11,6 +11,8 @@ public final class ActionsTest {
         promise12Limits(t);
         promise12Estimator(t);
         promise12Hold(t);
+        promise12Rounding(t);
+        promise12MoreOutputs(t);
         promise12Refuses(t);
         promise13Read(t);
         promise13ReadAgain(t);
@@ -47,6 +49,7 @@ public final class ActionsTest {
         x.place(0, 3);
         x.place(1, 4);
         t.due("read(0)", x.read(0), 0);
+        t.due("canBe(0, -7, 0, 0)", x.canBe(0, -7, 0, 0), false);
         t.due("place(0, 5)", x.place(0, 5), 3);
         t.state("place(0, 6)", () -> x.place(0, 6));
         t.due("place(0, -4)", x.place(0, -4), 5);
@@ -119,6 +122,32 @@ public final class ActionsTest {
         x.setGain(1, 0, 8);
         x.step(0, 0);
         t.due("estimate within the hold, from the last reading", x.state(1, 3), -800 + 760);
+    }
+
+    private static void promise12Rounding(Checks t) {
+        StateObserver x = Checks.loaded("N11009r+16+01+00o+0102g00+02");
+        x.read(0);
+        x.step(0, 0);
+        t.due("estimate", x.state(0, 3), 1);
+        x.setGain(0, 0, -7);
+        x.step(0, 0);
+        t.due("estimate, with -49 as the sum", x.state(0, 3), -3);
+        x.setGain(0, 0, 1);
+        x.step(0, 0);
+        t.due("estimate, with 11 as the sum", x.state(0, 3), -3);
+    }
+
+    private static void promise12MoreOutputs(Checks t) {
+        StateObserver x = Checks.loaded("N13002r+16+00+00o+0001o+0001o+0201g01+99g02+08");
+        x.place(0, 50);
+        x.read(2);
+        x.step(0, 0);
+        t.due("estimate", x.state(0, 3), 800);
+        t.due("the age", x.output(2, 1), 1);
+        x.step(0, 0);
+        t.due("estimate", x.state(0, 3), 800);
+        t.due("the age", x.output(2, 1), 2);
+        t.state("output(1, 1)", () -> x.output(1, 1));
     }
 
     private static void promise12Refuses(Checks t) {

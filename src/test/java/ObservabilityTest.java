@@ -7,6 +7,7 @@ public final class ObservabilityTest {
         promise25ObservabilityIndex(t);
         promise26HiddenDimension(t);
         promise26Chain(t);
+        promise26MoreOutputs(t);
         promise27Touched(t);
         promise28Free(t);
         promise28Refuses(t);
@@ -30,6 +31,7 @@ public final class ObservabilityTest {
         for (int k = 1; k <= 8; k++) {
             t.due("rankAfter(" + k + ")", x.rankAfter(k), ranks[k - 1]);
         }
+        t.due("rankAfter(1) again", x.rankAfter(1), 1);
         t.argument("rankAfter(0)", () -> x.rankAfter(0));
         t.argument("rankAfter(9)", () -> x.rankAfter(9));
         t.argument("rankAfter(-1)", () -> x.rankAfter(-1));
@@ -63,6 +65,7 @@ public final class ObservabilityTest {
         for (int k = 0; k <= 8; k++) {
             t.due("hiddenDimension(" + k + ")", x.hiddenDimension(k), want[Math.min(k, want.length - 1)]);
         }
+        t.due("hiddenDimension(1) again", x.hiddenDimension(1), want[Math.min(1, want.length - 1)]);
     }
 
     private static void promise26HiddenDimension(Checks t) {
@@ -82,6 +85,17 @@ public final class ObservabilityTest {
         hidden(t, chain("+00+01+00"), 3, 2, 1);
         hidden(t, chain("+01+00+00"), 3, 2);
         hidden(t, chain("+01+01+00"), 3, 2);
+    }
+
+    /** Both outputs show the unknown input, so that only what they show together without it tells of state 2. */
+    private static void promise26MoreOutputs(Checks t) {
+        String outputs = "o+01+00+0001o+00+01+0001";
+        hidden(t, Checks.loaded("N32000r+00+00+01+00+01r+00+00+00+00+01r+00+00+00+00+00" + outputs), 3, 1, 0);
+        hidden(t, Checks.loaded("N32000r+00+00+01+00+01r+00+00+01+00+01r+00+00+00+00+00" + outputs), 3, 1);
+        hidden(t, Checks.loaded("N32000r+00+00+01+00+01r+00+00+02+00+02r+00+00+00+00+00" + outputs), 3, 1);
+        hidden(t, Checks.loaded("N32000r+00+00+01+00+01r+00+00+02+00-02r+00+00+00+00+00" + outputs), 3, 1, 0);
+        hidden(t, Checks.loaded("N12000r+16+00+01o+0001o+0101"), 1, 0);
+        hidden(t, Checks.loaded("N31000r+16+00+00+00+00r+00+15+00+00+00r+00+00+14+00+00o+00+00+0101"), 3, 2);
     }
 
     private static void promise27Touched(Checks t) {
@@ -114,6 +128,9 @@ public final class ObservabilityTest {
         StateObserver negative = threeStates("-06-09+01");
         free(t, negative, 0, -3, 2, 0);
         free(t, negative, 1, 1, 0, 6);
+        StateObserver one = threeStates("+01+05-02");
+        free(t, one, 0, -5, 1, 0);
+        free(t, one, 1, 2, 0, 1);
         StateObserver w = threeStates("+00+00+00");
         free(t, w, 0, 1, 0, 0);
         free(t, w, 1, 0, 1, 0);

@@ -16,6 +16,7 @@ public final class QuestionsTest {
         promise23Unknown(t);
         promise23Bounds(t);
         promise23Limits(t);
+        promise23OneLimit(t);
         promise23Refuses(t);
         t.finish();
     }
@@ -185,6 +186,13 @@ public final class QuestionsTest {
         y.step(0, 3);
         y.read(0);
         unknown(t, y, 3, 5);
+        for (int d = -5; d <= 5; d += 10) {
+            StateObserver w = Checks.loaded("N11050r+16+00-02o+0101");
+            w.read(0);
+            w.step(0, d);
+            w.read(0);
+            unknown(t, w, d, d);
+        }
         StateObserver z = Checks.loaded("N11050r+16+00+00o+0105");
         z.read(0);
         z.step(0, 3);
@@ -203,6 +211,22 @@ public final class QuestionsTest {
                 x.read(0);
             }
             t.due("state(0, 1)", x.state(0, 1), sign * 1000000);
+            unknown(t, x, -5, 5);
+        }
+    }
+
+    /** State 1 becomes state 0, which is at the limit, but for an input that leads away from it again. */
+    private static void promise23OneLimit(Checks t) {
+        for (int sign = -1; sign <= 1; sign += 2) {
+            StateObserver x = Checks.loaded("N21050r+99+00+00+00r+16+00+01+01o+01+0001");
+            x.place(0, sign * 1000);
+            x.read(0);
+            for (int i = 0; i < 4; i++) {
+                x.step(0, 0);
+            }
+            x.step(-sign * 3, 0);
+            t.due("state(1, 1)", x.state(1, 1), sign < 0 ? -1000000 : 1000000 - 8);
+            t.due("state(1, 2)", x.state(1, 2), sign < 0 ? -1000000 + 8 : 1000000);
             unknown(t, x, -5, 5);
         }
     }

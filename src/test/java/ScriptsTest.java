@@ -11,6 +11,7 @@ public final class ScriptsTest {
         promise30Refuses(t);
         promise31FirstReading(t);
         promise31Widths(t);
+        promise31MoreOutputs(t);
         promise31Refuses(t);
         promise32Save(t);
         promise33Restore(t);
@@ -143,7 +144,7 @@ public final class ScriptsTest {
 
     /** Two states that grow by the unknown input alone, each with an output of its own. */
     private static void promise31Widths(Checks t) {
-        StateObserver x = Checks.loaded("N22070r+16+00+02+01r+00+16+01-02o+01+0001o+00+0110");
+        StateObserver x = Checks.loaded("N22070r+16+00+02+01r+00+16+01-02o+01+0001o+00+0107");
         for (long seed = 1000; seed < 1020; seed++) {
             long sum = 0;
             long number = seed;
@@ -163,7 +164,7 @@ public final class ScriptsTest {
                 }
                 if (r / 8192 % 4 != 0) {
                     int k = r / 32768 % 2;
-                    int quantum = k == 0 ? 1 : 10;
+                    int quantum = k == 0 ? 1 : 7;
                     int y = Math.floorDiv(truth[k], quantum);
                     least[k] = Math.max(least[k], quantum * y);
                     greatest[k] = Math.min(greatest[k], quantum * y + quantum - 1);
@@ -171,6 +172,20 @@ public final class ScriptsTest {
                 sum += greatest[0] - least[0] + greatest[1] - least[1];
             }
             t.due("simulate(" + seed + "L, 60)", x.simulate(seed, 60), sum);
+        }
+    }
+
+    /** One of three outputs shows the state, and does so with the quantum 99. */
+    private static void promise31MoreOutputs(Checks t) {
+        StateObserver x = Checks.loaded("N13000r+16+00+00o+0001o+0099o+0199");
+        for (long seed = 0; seed < 40; seed++) {
+            long rounds = 0;
+            long number = next(seed);
+            while (rounds < 20 && (number(number) / 8192 % 4 == 0 || number(number) / 32768 % 3 != 2)) {
+                rounds++;
+                number = next(number);
+            }
+            t.due("simulate(" + seed + "L, 20)", x.simulate(seed, 20), 2000 * rounds + 98 * (20 - rounds));
         }
     }
 

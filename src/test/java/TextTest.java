@@ -9,6 +9,7 @@ public final class TextTest {
         promise4ErrorPosition(t);
         promise4Gains(t);
         promise4FullText(t);
+        promise4Again(t);
         promise5Load(t);
         promise5Forgets(t);
         promise5Refuses(t);
@@ -62,6 +63,8 @@ public final class TextTest {
         position(t, "N14", 2);
         position(t, "N13", 3);
         position(t, "N11-0", 3);
+        position(t, "N11:", 3);
+        position(t, "N11/", 3);
         position(t, "N119/", 4);
         position(t, "N119:", 4);
         position(t, "N11999o", 6);
@@ -117,6 +120,18 @@ public final class TextTest {
         t.due("coefficient(5, 3, 2)", x.coefficient(5, 3, 2), -11);
         t.due("coefficient(0, 3, 3)", x.coefficient(0, 3, 3), -4);
         t.due("coefficient(3, 2, 3)", x.coefficient(3, 2, 3), -4);
+    }
+
+    private static void promise4Again(Checks t) {
+        StateObserver x = Checks.written(PLAIN + "g00");
+        t.due("errorPosition()", x.errorPosition(), 25);
+        x.append('+');
+        x.append('0');
+        t.due("errorPosition()", x.errorPosition(), 27);
+        x.append('7');
+        t.due("errorPosition()", x.errorPosition(), StateObserver.NONE);
+        x.clearText();
+        t.due("errorPosition()", x.errorPosition(), 0);
     }
 
     private static void promise5Load(Checks t) {
@@ -177,6 +192,9 @@ public final class TextTest {
 
     private static void promise5Refuses(Checks t) {
         StateObserver x = Checks.loaded("N12053r+10+02+03o+0405o+0607");
+        x.step(1, 0);
+        x.save(0);
+        t.due("load()", x.load(), 1);
         x.step(1, 0);
         x.save(0);
         x.append('g');
