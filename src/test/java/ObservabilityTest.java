@@ -94,6 +94,8 @@ public final class ObservabilityTest {
         hidden(t, Checks.loaded("N32000r+00+00+01+00+01r+00+00+01+00+01r+00+00+00+00+00" + outputs), 3, 1);
         hidden(t, Checks.loaded("N32000r+00+00+01+00+01r+00+00+02+00+02r+00+00+00+00+00" + outputs), 3, 1);
         hidden(t, Checks.loaded("N32000r+00+00+01+00+01r+00+00+02+00-02r+00+00+00+00+00" + outputs), 3, 1, 0);
+        hidden(t, Checks.loaded("N32000r+00+00+01+00+00r+00+00+00+00+00r+00+00+00+00+00" + outputs), 3, 1, 0);
+        hidden(t, Checks.loaded("N32000r+00+00+00+00+01r+00+00+00+00+01r+00+00+16+00+00o+01+00+0101o+00+01+0001"), 3, 1, 0);
         hidden(t, Checks.loaded("N12000r+16+00+01o+0001o+0101"), 1, 0);
         hidden(t, Checks.loaded("N31000r+16+00+00+00+00r+00+15+00+00+00r+00+00+14+00+00o+00+00+0101"), 3, 2);
     }
