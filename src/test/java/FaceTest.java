@@ -11,6 +11,7 @@ import java.util.Set;
 
 /** The public face, and rules 1, 5 and 11 of LANGUAGE.md as far as reflection shows them. */
 public final class FaceTest {
+    private static final Class<StateObserver> TYPE = StateObserver.class;
     private static final String[] FACE = {
         "int append(int) IllegalArgumentException IllegalStateException",
         "int clearText()",
@@ -47,29 +48,29 @@ public final class FaceTest {
     };
 
     public static void main(String[] args) {
-        Checks t = new Checks();
-        Class<StateObserver> type = StateObserver.class;
-        t.due("the class's modifiers", type.getModifiers(), Modifier.PUBLIC | Modifier.FINAL);
-        t.due("NONE", StateObserver.NONE, -9);
-        constructors(t, type);
-        methods(t, type);
-        fields(t, type);
-        classesInside(t, type);
-        t.finish();
+        Checks.main(FaceTest.class);
     }
 
-    private static void constructors(Checks t, Class<?> type) {
-        Constructor<?>[] all = type.getDeclaredConstructors();
+    @Holds(promise = 1, in = "The public face", sentence = "public final class StateObserver {")
+    static void theClass(Checks t) {
+        t.due("the class's modifiers", TYPE.getModifiers(), Modifier.PUBLIC | Modifier.FINAL);
+    }
+
+    @Holds(promise = 1, in = "The public face", sentence = "public StateObserver();")
+    static void constructors(Checks t) {
+        Constructor<?>[] all = TYPE.getDeclaredConstructors();
         t.due("number of constructors", all.length, 1);
         t.due("the constructor is public", Modifier.isPublic(all[0].getModifiers()), true);
         t.due("the constructor's parameters", all[0].getParameterCount(), 0);
         t.due("the constructor's exceptions", all[0].getExceptionTypes().length, 0);
     }
 
-    private static void methods(Checks t, Class<?> type) {
+    @Holds(promise = 2, in = "The public face",
+        sentence = "public int append(int c) throws IllegalArgumentException, IllegalStateException;")
+    static void methods(Checks t) {
         List<String> open = new ArrayList<>();
         Set<String> openNames = new HashSet<>();
-        for (Method m : type.getDeclaredMethods()) {
+        for (Method m : TYPE.getDeclaredMethods()) {
             if (!Modifier.isPrivate(m.getModifiers()) && !m.isSynthetic()) {
                 open.add(described(m));
                 openNames.add(m.getName());
@@ -79,11 +80,11 @@ public final class FaceTest {
         Collections.sort(face);
         Collections.sort(open);
         t.due("the public methods", String.join("\n", open), String.join("\n", face));
-        List<Class<?>> classes = new ArrayList<>(Arrays.asList(type.getDeclaredClasses()));
-        classes.add(type);
+        List<Class<?>> classes = new ArrayList<>(Arrays.asList(TYPE.getDeclaredClasses()));
+        classes.add(TYPE);
         for (Class<?> c : classes) {
             for (Method m : c.getDeclaredMethods()) {
-                boolean ofTheFace = c == type && Modifier.isPublic(m.getModifiers());
+                boolean ofTheFace = c == TYPE && Modifier.isPublic(m.getModifiers());
                 t.due(m + " bears a public name", !ofTheFace && openNames.contains(m.getName()), false);
                 t.due(m + " has too many parameters", m.getParameterCount() > 7, false);
             }
@@ -107,9 +108,11 @@ public final class FaceTest {
         return s.toString();
     }
 
-    private static void fields(Checks t, Class<?> type) {
+    /** Rules 1, 5 and 11 of LANGUAGE.md, too. */
+    @Holds(promise = 1, in = "The public face", sentence = "public static final int NONE = -9;")
+    static void fields(Checks t) {
         int own = 0;
-        for (Field f : type.getDeclaredFields()) {
+        for (Field f : TYPE.getDeclaredFields()) {
             boolean isNone = f.getName().equals("NONE");
             int access = f.getModifiers() & (Modifier.PUBLIC | Modifier.PROTECTED | Modifier.PRIVATE);
             t.due(f + " has the access", access, isNone ? Modifier.PUBLIC : Modifier.PRIVATE);
@@ -122,8 +125,10 @@ public final class FaceTest {
         t.due("too many fields", own > 20, false);
     }
 
-    private static void classesInside(Checks t, Class<?> type) {
-        Class<?>[] inside = type.getDeclaredClasses();
+    /** Rules 1, 2, 5 and 11 of LANGUAGE.md: what stands inside is no part of the face. */
+    @Holds(promise = 1, in = "The public face", sentence = "public final class StateObserver {")
+    static void classesInside(Checks t) {
+        Class<?>[] inside = TYPE.getDeclaredClasses();
         t.due("too many classes", inside.length > 11, false);
         for (Class<?> c : inside) {
             t.due(c + " is static", Modifier.isStatic(c.getModifiers()), true);

@@ -1,172 +1,243 @@
-/** Promises 24 to 29: ranks, hidden dimensions, and combinations without the unknown input. */
+/** What the document says of ranks and hidden dimensions, and promises 24 to 29. */
 public final class ObservabilityTest {
-    public static void main(String[] args) {
-        Checks t = new Checks();
-        promise24RankAfter(t);
-        promise24ModuloThePrime(t);
-        promise25ObservabilityIndex(t);
-        promise26HiddenDimension(t);
-        promise26Chain(t);
-        promise26MoreOutputs(t);
-        promise27Touched(t);
-        promise28Free(t);
-        promise28Refuses(t);
-        promise29FreeRange(t);
-        t.finish();
-    }
+    /** The rows (60, 73) and (60, 73) * A have the determinant 1000003; with the last factor greater by 1 they do not. */
+    private static final String BY_THE_PRIME = "plant(N21000r-30+91+00+00r-67+42+00+00o+60+7301)";
+    private static final String BESIDE_THE_PRIME = "plant(N21000r-30+91+00+00r-67+43+00+00o+60+7301)";
+    /** C * A is 346 * C, so that C times the power 7 of A is beyond a long. */
+    private static final String GREAT_POWERS = "plant(N41000r+99+99+99+50+00+00r+99+99+99+50+00+00r+99+99+99+50+00+00"
+        + "r+98+98+98+46+00+00o+98+98+98+4901)";
+    /** Three states that stay as they are. */
+    private static final String THREE = "plant(N31050r+16+00+00+00%sr+00+16+00+00%sr+00+00+16+00%so+01+00+0001)";
 
-    private static StateObserver twoStates(String a0, String a1, String e0, String e1, String c) {
-        return Checks.loaded("N21000r" + a0 + "+01" + e0 + "r" + a1 + "+01" + e1 + "o" + c + "01");
+    public static void main(String[] args) {
+        Checks.main(ObservabilityTest.class);
     }
 
     /** Three states in a chain: the output shows state 0, in which state 1 comes next, in which state 2 comes next. */
-    private static StateObserver chain(String e) {
-        return Checks.loaded("N31000r+00+01+00+00" + e.substring(0, 3) + "r+00+00+01+00" + e.substring(3, 6)
-            + "r+00+00+00+00" + e.substring(6, 9) + "o+01+00+0001");
+    private static String chain(String e0, String e1, String e2) {
+        return "plant(N31000r+00+01+00+00" + e0 + "r+00+00+01+00" + e1 + "r+00+00+00+00" + e2 + "o+01+00+0001)";
     }
 
-    private static void promise24RankAfter(Checks t) {
-        StateObserver x = chain("+00+00+00");
-        int[] ranks = {1, 2, 3, 3, 3, 3, 3, 3};
-        for (int k = 1; k <= 8; k++) {
-            t.due("rankAfter(" + k + ")", x.rankAfter(k), ranks[k - 1]);
+    private static String three(String e0, String e1, String e2) {
+        return String.format(THREE, e0, e1, e2);
+    }
+
+    private static void ranks(Checks t, String plant, int... want) {
+        StringBuilder run = new StringBuilder(plant);
+        for (int k = 8; k >= 1; k--) {
+            run.append("; rankAfter(").append(k).append(") = ").append(want[Math.min(k, want.length) - 1]);
         }
-        t.due("rankAfter(1) again", x.rankAfter(1), 1);
-        t.argument("rankAfter(0)", () -> x.rankAfter(0));
-        t.argument("rankAfter(9)", () -> x.rankAfter(9));
-        t.argument("rankAfter(-1)", () -> x.rankAfter(-1));
-        StateObserver blind = twoStates("+16+00", "+00+16", "+00", "+00", "+00+00");
-        t.due("rankAfter(8) without a view", blind.rankAfter(8), 0);
-        StateObserver wide = Checks.loaded("N23000r+16+00+00+00r+00+16+00+00o+02+0401o-01-0201o+03+0501");
-        t.due("rankAfter(1) of three outputs", wide.rankAfter(1), 2);
+        t.run(run + "; rankAfter(2) = " + want[Math.min(2, want.length) - 1]);
     }
 
-    /** The rows (60, 73) and (60, 73) * A have the determinant 1000003. */
-    private static void promise24ModuloThePrime(Checks t) {
-        StateObserver x = twoStates("-30+91", "-67+42", "+00", "+00", "+60+73");
-        t.due("rankAfter(2)", x.rankAfter(2), 1);
-        t.due("observabilityIndex()", x.observabilityIndex(), StateObserver.NONE);
-        t.due("hiddenDimension(2)", x.hiddenDimension(2), 1);
-        StateObserver y = twoStates("-30+91", "-67+43", "+00", "+00", "+60+73");
-        t.due("rankAfter(2)", y.rankAfter(2), 2);
-    }
-
-    private static void promise25ObservabilityIndex(Checks t) {
-        t.due("observabilityIndex() of a chain", chain("+01+02+03").observabilityIndex(), 3);
-        t.due("observabilityIndex() of the view (1, 1)",
-            twoStates("+16+00", "+00+15", "+00", "+00", "+01+01").observabilityIndex(), 2);
-        t.due("observabilityIndex() of equal states",
-            twoStates("+16+00", "+00+16", "+00", "+00", "+01+01").observabilityIndex(), StateObserver.NONE);
-        t.due("observabilityIndex() of two outputs",
-            Checks.loaded("N22000r+16+00+00+00r+00+16+00+00o+02+0401o+03+0501").observabilityIndex(), 1);
-    }
-
-    private static void hidden(Checks t, StateObserver x, int... want) {
-        for (int k = 0; k <= 8; k++) {
-            t.due("hiddenDimension(" + k + ")", x.hiddenDimension(k), want[Math.min(k, want.length - 1)]);
+    private static void hidden(Checks t, String plant, int... want) {
+        StringBuilder run = new StringBuilder(plant);
+        for (int k = 8; k >= 0; k--) {
+            run.append("; hiddenDimension(").append(k).append(") = ").append(want[Math.min(k, want.length - 1)]);
         }
-        t.due("hiddenDimension(1) again", x.hiddenDimension(1), want[Math.min(1, want.length - 1)]);
+        t.run(run + "; hiddenDimension(1) = " + want[Math.min(1, want.length - 1)]);
     }
 
-    private static void promise26HiddenDimension(Checks t) {
-        hidden(t, twoStates("+16+04", "+00+16", "+00", "+00", "+01+00"), 2, 1, 0);
-        hidden(t, twoStates("+16+04", "+00+16", "+00", "+01", "+01+00"), 2, 1, 0);
-        hidden(t, twoStates("+16+04", "+00+16", "+01", "+00", "+01+00"), 2, 1);
-        hidden(t, twoStates("+16+00", "+00+16", "+00", "+00", "+00+00"), 2);
-        hidden(t, twoStates("+16+00", "+03+16", "+01", "+01", "+01-01"), 2, 1, 0);
-        StateObserver x = new StateObserver();
-        t.argument("hiddenDimension(-1)", () -> x.hiddenDimension(-1));
-        t.argument("hiddenDimension(9)", () -> x.hiddenDimension(9));
+    // ---- the description
+
+    @Holds(promise = {24, 25, 26}, in = "OBSERVABILITY",
+        sentence = "All ranks are those of matrices of integers modulo the prime 1000003.")
+    static void moduloThePrime(Checks t) {
+        ranks(t, BY_THE_PRIME, 1);
+        ranks(t, BESIDE_THE_PRIME, 1, 2);
+        t.run(BY_THE_PRIME + "; observabilityIndex() = NONE; hiddenDimension(2) = 1; hiddenDimension(8) = 1");
+        t.run(BESIDE_THE_PRIME + "; observabilityIndex() = 2; hiddenDimension(2) = 0");
+        ranks(t, GREAT_POWERS, 1);
+        hidden(t, GREAT_POWERS, 4, 3);
     }
 
-    private static void promise26Chain(Checks t) {
-        hidden(t, chain("+00+00+00"), 3, 2, 1, 0);
-        hidden(t, chain("+00+00+01"), 3, 2, 1, 0);
-        hidden(t, chain("+00+01+00"), 3, 2, 1);
-        hidden(t, chain("+01+00+00"), 3, 2);
-        hidden(t, chain("+01+01+00"), 3, 2);
+    @Holds(promise = 24, in = "OBSERVABILITY", sentence = "The rank after k is the rank of the matrix of the rows of C, C *"
+        + " A, and so on up to C times the power k - 1 of A.")
+    static void ranksOfPowers(Checks t) {
+        ranks(t, chain("+00", "+00", "+00"), 1, 2, 3);
+        ranks(t, "plant(N41000r+00+01+00+00+00+00r+00+00+01+00+00+00r+00+00+00+01+00+00r+00+00+00+00+00+00o+01+00+00+0001)",
+            1, 2, 3, 4);
+        ranks(t, "plant(N41000r+00+01+00+00+00+00r+00+00+01+00+00+00r+01+00+00+00+00+00r+00+00+00+16+00+00o+01+00+00+0001)",
+            1, 2, 3);
+        ranks(t, "plant(N21000r+16+00+00+00r+00+16+00+00o+00+0001)", 0);
+        ranks(t, "plant(N23000r+16+00+00+00r+00+16+00+00o+02+0401o-01-0201o+03+0501)", 2);
+        ranks(t, "plant(N23000r+16+00+00+00r+00+16+00+00o+02+0401o-01-0201o+99+9901)", 2);
+        ranks(t, "plant(N22000r+16+00+00+00r+00+16+00+00o+02+0401o-01-0201)", 1);
+        // a row times A, not A times a row
+        ranks(t, "plant(N21000r+16+01+00+00r+00+16+00+00o+01+0001)", 1, 2);
+        ranks(t, "plant(N21000r+16+01+00+00r+00+16+00+00o+00+0101)", 1);
+        // the quanta, the inputs and the bound say nothing
+        ranks(t, "plant(N21990r+16+01+99+99r+00+16-99-99o+01+0099)", 1, 2);
     }
 
-    /** Both outputs show the unknown input, so that only what they show together without it tells of state 2. */
-    private static void promise26MoreOutputs(Checks t) {
-        String outputs = "o+01+00+0001o+00+01+0001";
-        hidden(t, Checks.loaded("N32000r+00+00+01+00+01r+00+00+00+00+01r+00+00+00+00+00" + outputs), 3, 1, 0);
-        hidden(t, Checks.loaded("N32000r+00+00+01+00+01r+00+00+01+00+01r+00+00+00+00+00" + outputs), 3, 1);
-        hidden(t, Checks.loaded("N32000r+00+00+01+00+01r+00+00+02+00+02r+00+00+00+00+00" + outputs), 3, 1);
-        hidden(t, Checks.loaded("N32000r+00+00+01+00+01r+00+00+02+00-02r+00+00+00+00+00" + outputs), 3, 1, 0);
-        hidden(t, Checks.loaded("N32000r+00+00+01+00+00r+00+00+00+00+00r+00+00+00+00+00" + outputs), 3, 1, 0);
-        hidden(t, Checks.loaded("N32000r+00+00+00+00+01r+00+00+00+00+01r+00+00+16+00+00o+01+00+0101o+00+01+0001"), 3, 1, 0);
-        hidden(t, Checks.loaded("N12000r+16+00+01o+0001o+0101"), 1, 0);
-        hidden(t, Checks.loaded("N31000r+16+00+00+00+00r+00+15+00+00+00r+00+00+14+00+00o+00+00+0101"), 3, 2);
+    @Holds(promise = 26, in = "OBSERVABILITY", sentence = "The hidden dimensions tell what cannot be seen if the unknown input"
+        + " is arbitrary: V(0) is the space of all vectors of n integers modulo 1000003, and V(k + 1) the space of those x for"
+        + " which C * x is 0 and A * x is the sum of a vector of V(k) and a multiple of e.")
+    static void hiddenSpaces(Checks t) {
+        hidden(t, chain("+00", "+00", "+00"), 3, 2, 1, 0);
+        hidden(t, chain("+00", "+00", "+01"), 3, 2, 1, 0);
+        hidden(t, chain("+00", "+01", "+00"), 3, 2, 1);
+        hidden(t, chain("+01", "+00", "+00"), 3, 2);
+        hidden(t, chain("+01", "+01", "+00"), 3, 2);
+        hidden(t, "plant(N21000r+16+00+00+01r+03+16+00+01o+01-0101)", 2, 1, 0);
+        // both outputs show the unknown input: only what they show together without it tells of state 2
+        String outputs = "o+01+00+0001o+00+01+0001)";
+        hidden(t, "plant(N32000r+00+00+01+00+01r+00+00+00+00+01r+00+00+00+00+00" + outputs, 3, 1, 0);
+        hidden(t, "plant(N32000r+00+00+01+00+01r+00+00+01+00+01r+00+00+00+00+00" + outputs, 3, 1);
+        hidden(t, "plant(N32000r+00+00+01+00+01r+00+00+02+00+02r+00+00+00+00+00" + outputs, 3, 1);
+        hidden(t, "plant(N32000r+00+00+01+00+01r+00+00+02+00-02r+00+00+00+00+00" + outputs, 3, 1, 0);
+        hidden(t, "plant(N32000r+00+00+01+00+00r+00+00+00+00+00r+00+00+00+00+00" + outputs, 3, 1, 0);
+        hidden(t, "plant(N32000r+00+00+00+00+01r+00+00+00+00+01r+00+00+16+00+00o+01+00+0101o+00+01+0001)", 3, 1, 0);
+        hidden(t, "plant(N31000r+16+00+00+00+00r+00+15+00+00+00r+00+00+14+00+00o+00+00+0101)", 3, 2);
     }
 
-    private static void promise27Touched(Checks t) {
-        t.due("touched()", Checks.loaded("N23000r+16+00+00+01r+00+16+00-03o+03+0101o+01+0001o+00+0201").touched(), 6);
-        t.due("touched()", Checks.loaded("N12000r+16+01+05o-0101o+0001").touched(), 1);
-        t.due("touched() of a new object", new StateObserver().touched(), 0);
+    @Holds(promise = 26, in = "OBSERVABILITY", sentence = "The hidden dimension k is the dimension of V(k).")
+    static void hiddenDimensions(Checks t) {
+        hidden(t, "plant(N21000r+16+04+00+00r+00+16+00+00o+01+0001)", 2, 1, 0);
+        hidden(t, "plant(N21000r+16+04+00+00r+00+16+00+01o+01+0001)", 2, 1, 0);
+        hidden(t, "plant(N21000r+16+04+00+01r+00+16+00+00o+01+0001)", 2, 1);
+        hidden(t, "plant(N21000r+16+00+00+00r+00+16+00+00o+00+0001)", 2);
+        hidden(t, "plant(N12000r+16+00+01o+0001o+0101)", 1, 0);
+        hidden(t, "plant(N41000r+00+01+00+00+00+00r+00+00+01+00+00+00r+00+00+00+01+00+00r+00+00+00+00+00+00o+01+00+00+0001)",
+            4, 3, 2, 1, 0);
     }
 
-    private static StateObserver threeStates(String e) {
-        return Checks.loaded("N31050r+16+00+00+00" + e.substring(0, 3) + "r+00+16+00+00" + e.substring(3, 6)
-            + "r+00+00+16+00" + e.substring(6, 9) + "o+01+00+0001");
+    // ---- promise 24
+
+    @Holds(promise = 24, sentence = {"Returns the rank after k.", "- `k`: 1 to 8", "Returns the rank."})
+    static void rankAfter(Checks t) {
+        t.run("rankAfter(1) = 1; rankAfter(8) = 1");
+        t.run(chain("+01", "+02", "+03") + "; rankAfter(1) = 1; rankAfter(8) = 3; rankAfter(2) = 2; rankAfter(1) = 1");
     }
 
-    private static void free(Checks t, StateObserver x, int q, int... want) {
-        for (int j = 0; j < want.length; j++) {
-            t.due("free(" + q + ", " + j + ")", x.free(q, j), want[j]);
-        }
+    @Holds(promise = 24, sentence = "Throws `IllegalArgumentException` if k is out of range")
+    static void rankOutOfRange(Checks t) {
+        t.run("rankAfter(0) = throws IllegalArgumentException; rankAfter(9) = throws IllegalArgumentException",
+            "rankAfter(-1) = throws IllegalArgumentException; rankAfter(2147483647) = throws IllegalArgumentException",
+            "rankAfter(-2147483648) = throws IllegalArgumentException");
     }
 
-    private static void promise28Free(Checks t) {
-        StateObserver x = threeStates("+00+06-04");
-        free(t, x, 0, 1, 0, 0);
-        free(t, x, 1, 0, 2, 3);
-        StateObserver y = threeStates("-04+06+00");
-        free(t, y, 0, 3, 2, 0);
-        free(t, y, 1, 0, 0, 1);
-        StateObserver z = threeStates("+99-99+98");
-        free(t, z, 0, 1, 1, 0);
-        free(t, z, 1, -98, 0, 99);
-        StateObserver negative = threeStates("-06-09+01");
-        free(t, negative, 0, -3, 2, 0);
-        free(t, negative, 1, 1, 0, 6);
-        StateObserver one = threeStates("+01+05-02");
-        free(t, one, 0, -5, 1, 0);
-        free(t, one, 1, 2, 0, 1);
-        StateObserver w = threeStates("+00+00+00");
-        free(t, w, 0, 1, 0, 0);
-        free(t, w, 1, 0, 1, 0);
-        free(t, w, 2, 0, 0, 1);
+    // ---- promise 25
+
+    @Holds(promise = 25, sentence = "Returns the observability index: the smallest k, 1 to n, for which the rank after k is n;"
+        + " NONE if there is none.")
+    static void observabilityIndex(Checks t) {
+        t.run("observabilityIndex() = 1");
+        t.run(chain("+01", "+02", "+03") + "; observabilityIndex() = 3");
+        t.run("plant(N41000r+00+01+00+00+00+00r+00+00+01+00+00+00r+00+00+00+01+00+00r+00+00+00+00+00+00o+01+00+00+0001)",
+            "observabilityIndex() = 4");
+        t.run("plant(N41000r+00+01+00+00+00+00r+00+00+01+00+00+00r+00+00+00+01+00+00r+00+00+00+00+00+00o+00+01+00+0001)",
+            "observabilityIndex() = NONE");
+        t.run("plant(N22000r+16+00+00+00r+00+16+00+00o+02+0401o+03+0501); observabilityIndex() = 1");
+        t.run("plant(N21000r+16+00+00+00r+00+15+00+00o+01+0101); observabilityIndex() = 2");
+        t.run("plant(N21000r+16+00+00+00r+00+16+00+00o+01+0101); observabilityIndex() = NONE");
+        t.run("plant(N11000r+16+00+00o+0001); observabilityIndex() = NONE");
+        t.run("plant(N12000r+16+00+00o+0001o+0101); observabilityIndex() = 1");
     }
 
-    private static void promise28Refuses(Checks t) {
-        StateObserver x = threeStates("+00+06-04");
-        t.index("free(2, 0)", () -> x.free(2, 0));
-        t.index("free(-1, 0)", () -> x.free(-1, 0));
-        t.index("free(0, 3)", () -> x.free(0, 3));
-        t.index("free(0, -1)", () -> x.free(0, -1));
-        StateObserver y = threeStates("+00+00+00");
-        t.index("free(3, 0)", () -> y.free(3, 0));
-        StateObserver z = Checks.loaded("N11000r+16+01+01o+0101");
-        t.index("free(0, 0) when there is no combination", () -> z.free(0, 0));
-        t.index("freeRange(0, true) when there is no combination", () -> z.freeRange(0, true));
+    // ---- promise 26
+
+    @Holds(promise = 26, sentence = {"Returns a hidden dimension.", "- `k`: 0 to 8", "Returns the hidden dimension k."})
+    static void hiddenDimension(Checks t) {
+        t.run("hiddenDimension(0) = 1; hiddenDimension(1) = 0; hiddenDimension(8) = 0; hiddenDimension(0) = 1");
+        t.run(chain("+00", "+01", "+00") + "; hiddenDimension(8) = 1; hiddenDimension(0) = 3; hiddenDimension(1) = 2");
     }
 
-    private static void promise29FreeRange(Checks t) {
-        StateObserver x = threeStates("+02+03+00");
+    @Holds(promise = 26, sentence = "Throws `IllegalArgumentException` if k is out of range")
+    static void hiddenDimensionOutOfRange(Checks t) {
+        t.run("hiddenDimension(-1) = throws IllegalArgumentException; hiddenDimension(9) = throws IllegalArgumentException",
+            "hiddenDimension(2147483647) = throws IllegalArgumentException",
+            "hiddenDimension(-2147483648) = throws IllegalArgumentException");
+    }
+
+    // ---- promise 27
+
+    @Holds(promise = 27, sentence = {"Tells whether the unknown input acts on the outputs in one step.",
+        "Returns the set of the outputs k for which the sum of C(k, j) * e(j) is not 0, as a bit set."})
+    static void touched(Checks t) {
+        t.run("touched() = 0; setBound(5); touched() = 0");
+        t.run("plant(N13000r+16+00+01o+0101o+0101o+0101); touched() = 7");
+        t.run("plant(N13000r+16+00-01o+0001o+0101o+0001); touched() = 2");
+        t.run("plant(N13000r+16+00-01o+0001o+0001o-0101); touched() = 4");
+        t.run("plant(N12000r+16+01+05o-0101o+0001); touched() = 1");
+        // the sums 3 * 1 - 1 * 3, 1 * 1, and -2 * 3
+        t.run("plant(N23000r+16+00+00+01r+00+16+00-03o+03+0101o+01+0001o+00+0201); touched() = 6");
+        t.run("plant(N42000r+16+00+00+00+00+00r+00+16+00+00+00+00r+00+00+16+00+00+00r+00+00+00+16+00+01o+00+00+00+0101"
+            + "o+99+99+99+0001); touched() = 1");
+    }
+
+    // ---- promise 28
+
+    @Holds(promise = 28, sentence = {"Returns a factor of a combination of states on which the unknown input does not act.",
+        "If e is 0, combination q has the factor 1 for state q, and 0 for the other states; there are n.",
+        "- `q`: number of the combination, from 0", "- `j`: state", "Returns the factor of state j."})
+    static void freeWithoutTheUnknownInput(Checks t) {
+        t.run("free(0, 0) = 1");
+        t.run(three("+00", "+00", "+00") + "; free(0, 0) = 1; free(0, 1) = 0; free(0, 2) = 0; free(1, 0) = 0; free(1, 1) = 1",
+            "free(1, 2) = 0; free(2, 0) = 0; free(2, 1) = 0; free(2, 2) = 1; free(3, 0) = throws IndexOutOfBoundsException");
+    }
+
+    @Holds(promise = 28, sentence = {"Otherwise let t be the first state with e(t) different from 0; there is a combination for"
+        + " each other state s, in the order of their numbers:", "and the other states have the factor 0; there are n - 1."})
+    static void freeCombinations(Checks t) {
+        // the first state with the unknown input is state 0, 1, 2
+        t.run(three("+01", "+05", "-02") + "; free(0, 0) = -5; free(0, 1) = 1; free(0, 2) = 0; free(1, 0) = 2; free(1, 1) = 0",
+            "free(1, 2) = 1; free(2, 0) = throws IndexOutOfBoundsException");
+        t.run(three("+00", "+06", "-04") + "; free(0, 0) = 1; free(0, 1) = 0; free(0, 2) = 0; free(1, 0) = 0; free(1, 1) = 2",
+            "free(1, 2) = 3; free(2, 0) = throws IndexOutOfBoundsException");
+        t.run(three("+00", "+00", "-04") + "; free(0, 0) = 1; free(0, 1) = 0; free(0, 2) = 0; free(1, 0) = 0; free(1, 1) = 1",
+            "free(1, 2) = 0; free(2, 0) = throws IndexOutOfBoundsException");
+        t.run("plant(N41000r+16+00+00+00+00+00r+00+16+00+00+00+02r+00+00+16+00+00+03r+00+00+00+16+00+04o+01+00+00+0001)",
+            "free(0, 0) = 1; free(1, 1) = -3; free(1, 2) = 2; free(1, 3) = 0; free(2, 1) = -2; free(2, 2) = 0; free(2, 3) = 1",
+            "free(3, 3) = throws IndexOutOfBoundsException");
+    }
+
+    @Holds(promise = 28, sentence = "with g the greatest common divisor of e(s) and e(t), state s has the factor |e(t)| / g,"
+        + " state t has the factor -e(s) / g if e(t) is positive and e(s) / g if it is negative,")
+    static void freeFactors(Checks t) {
+        t.run(three("-04", "+06", "+00") + "; free(0, 0) = 3; free(0, 1) = 2; free(0, 2) = 0; free(1, 0) = 0; free(1, 2) = 1");
+        t.run(three("+99", "-99", "+98") + "; free(0, 0) = 1; free(0, 1) = 1; free(1, 0) = -98; free(1, 2) = 99");
+        t.run(three("-06", "-09", "+01") + "; free(0, 0) = -3; free(0, 1) = 2; free(1, 0) = 1; free(1, 2) = 6");
+        t.run(three("-99", "+98", "-98") + "; free(0, 0) = 98; free(0, 1) = 99; free(1, 0) = -98; free(1, 2) = 99");
+        t.run(three("+96", "-64", "+00") + "; free(0, 0) = 2; free(0, 1) = 3; free(1, 0) = 0; free(1, 2) = 1");
+        t.run(three("-01", "+99", "-99") + "; free(0, 0) = 99; free(0, 1) = 1; free(1, 0) = -99; free(1, 2) = 1");
+        t.run(three("+99", "+01", "-01") + "; free(0, 0) = -1; free(0, 1) = 99; free(1, 0) = 1; free(1, 2) = 99");
+        t.run(three("+49", "+98", "-77") + "; free(0, 0) = -2; free(0, 1) = 1; free(1, 0) = 11; free(1, 2) = 7");
+    }
+
+    @Holds(promise = 28, sentence = "Throws `IndexOutOfBoundsException` if there is no such combination or state")
+    static void freeOfNoCombinationOrState(Checks t) {
+        t.run(three("+00", "+06", "-04") + "; free(2, 0) = throws IndexOutOfBoundsException",
+            "free(-1, 0) = throws IndexOutOfBoundsException; free(0, 3) = throws IndexOutOfBoundsException",
+            "free(0, -1) = throws IndexOutOfBoundsException; free(2147483647, 0) = throws IndexOutOfBoundsException",
+            "free(0, -2147483648) = throws IndexOutOfBoundsException");
+        t.run("free(1, 0) = throws IndexOutOfBoundsException; free(0, 1) = throws IndexOutOfBoundsException");
+        // with one state, on which the unknown input acts, there is no combination at all
+        t.run("plant(N11000r+16+01+01o+0101); free(0, 0) = throws IndexOutOfBoundsException");
+    }
+
+    // ---- promise 29
+
+    @Holds(promise = 29, sentence = {"Returns the least or the greatest value of a combination of states on which the unknown"
+        + " input does not act.", "- `q`: number of the combination, as for free", "- `upper`: true for the greatest value"
+        + " over the intervals, false for the least one", "Returns that value."})
+    static void freeRange(Checks t) {
+        t.run("freeRange(0, false) = -1000; freeRange(0, true) = 1000; place(0, 7); read(0); freeRange(0, false) = 7");
         // the combinations are (-3, 2, 0) and (0, 0, 1)
-        t.due("freeRange(0, false)", x.freeRange(0, false), -5000);
-        t.due("freeRange(0, true)", x.freeRange(0, true), 5000);
-        x.place(0, 10);
-        x.read(0);
-        t.due("freeRange(0, false)", x.freeRange(0, false), -2030);
-        t.due("freeRange(0, true)", x.freeRange(0, true), 1970);
-        t.due("freeRange(1, true)", x.freeRange(1, true), 1000);
-        t.due("freeRange(1, false)", x.freeRange(1, false), -1000);
-        x.step(0, 0);
-        t.due("freeRange(0, false) after a step", x.freeRange(0, false), -3 * 20 - 2 * 1015);
-        t.due("freeRange(0, true) after a step", x.freeRange(0, true), 2 * 1015);
-        t.index("freeRange(2, true)", () -> x.freeRange(2, true));
-        t.index("freeRange(-1, true)", () -> x.freeRange(-1, true));
+        t.run(three("+02", "+03", "+00") + "; freeRange(0, false) = -5000; freeRange(0, true) = 5000; place(0, 10); read(0)",
+            "freeRange(0, false) = -2030; freeRange(0, true) = 1970; freeRange(1, true) = 1000; freeRange(1, false) = -1000",
+            "step(0, 0); freeRange(0, false) = -2090; freeRange(0, true) = 2030");
+        // the greatest factors and the greatest values
+        t.run("plant(N21990r+99+00+00+99r+00+99+00-98o+01+0001); 4 times step(0, 0); freeRange(0, true) = 197000000",
+            "freeRange(0, false) = -197000000");
+    }
+
+    @Holds(promise = 29, sentence = "Throws `IndexOutOfBoundsException` if there is no such combination")
+    static void freeRangeOfNoCombination(Checks t) {
+        t.run(three("+02", "+03", "+00") + "; freeRange(1, true) = 1000; freeRange(2, true) = throws IndexOutOfBoundsException",
+            "freeRange(-1, true) = throws IndexOutOfBoundsException; freeRange(2147483647, false) = throws IndexOutOfBoundsException",
+            "freeRange(-2147483648, true) = throws IndexOutOfBoundsException");
+        t.run(three("+00", "+00", "+00") + "; freeRange(2, true) = 1000; freeRange(3, true) = throws IndexOutOfBoundsException");
+        t.run("plant(N11000r+16+01+01o+0101); freeRange(0, true) = throws IndexOutOfBoundsException");
     }
 }
