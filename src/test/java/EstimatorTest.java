@@ -73,6 +73,9 @@ public final class EstimatorTest {
         t.run("plant(N11000r+10+01+00o+0101); step(3, 0); state(0, 3) = 48; step(-4, 0); state(0, 3) = -34; step(0, 0)",
             "state(0, 3) = -22");
         t.run("plant(N11000r+00+99+00o+0101); step(99, 0); state(0, 3) = 156816; step(-99, 0); state(0, 3) = -156816");
+        // the deviations 16, 15, 15: a sum of 15 adds nothing, one of -15 takes 1 off
+        t.run("plant(N11009r+16+00+00o+0103g00+01); read(0); step(0, 0); state(0, 3) = 1; step(0, 0); state(0, 3) = 1",
+            "setGain(0, 0, -1); step(0, 0); state(0, 3) = 0; step(0, 0); state(0, 3) = -1");
         // both sums are rounded, each by itself: 8 / 16 and 8 / 16, then 8 / 16 and -8 / 16
         t.run("plant(N11009r+08+00+00o+0002g00+02); read(0); step(0, 0); state(0, 3) = 1; setGain(0, 0, 1); step(0, 0)",
             "state(0, 3) = 0");

@@ -93,6 +93,12 @@ public final class ObservabilityTest {
 
     @Holds(promise = 26, in = "OBSERVABILITY", sentence = "The hidden dimension k is the dimension of V(k).")
     static void hiddenDimensions(Checks t) {
+        hidden(t, "plant(N23000r+16+00+00+00r+00+16+00+00o+02+0401o-01-0201o+03+0501)", 2, 0);
+        hidden(t, "plant(N23000r+16+00+00+00r+00+16+00+00o+02+0401o-01-0201o+04+0801)", 2, 1);
+        String fourInAChain = "plant(N41000r+00+01+00+00+00+00r+00+00+01+00+00+00r+00+00+00+01+00%sr+00+00+00+00+00%so+01+00+00+0001)";
+        hidden(t, String.format(fourInAChain, "+00", "+05"), 4, 3, 2, 1, 0);
+        hidden(t, String.format(fourInAChain, "+07", "+00"), 4, 3, 2, 1);
+        hidden(t, String.format(fourInAChain, "+07", "+05"), 4, 3, 2, 1);
         hidden(t, "plant(N21000r+16+04+00+00r+00+16+00+00o+01+0001)", 2, 1, 0);
         hidden(t, "plant(N21000r+16+04+00+00r+00+16+00+01o+01+0001)", 2, 1, 0);
         hidden(t, "plant(N21000r+16+04+00+01r+00+16+00+00o+01+0001)", 2, 1);
@@ -100,6 +106,18 @@ public final class ObservabilityTest {
         hidden(t, "plant(N12000r+16+00+01o+0001o+0101)", 1, 0);
         hidden(t, "plant(N41000r+00+01+00+00+00+00r+00+00+01+00+00+00r+00+00+00+01+00+00r+00+00+00+00+00+00o+01+00+00+0001)",
             4, 3, 2, 1, 0);
+    }
+
+    /** Nothing of a greater plant counts any more when a smaller one is loaded. */
+    @Holds(promise = {5, 24, 25, 26, 27, 28, 29}, sentence = "Replaces the plant by that of the text,")
+    static void smallerPlantAfterAGreaterOne(Checks t) {
+        String great = "plant(N43000r+16+01+02+03+04+05r+01+16+02+03+04+05r+01+02+16+03+04+05r+01+02+03+16+04+05o+01+02+03+0405"
+            + "o+05+04+03+0201o+01+01+02+0303); rankAfter(8) = 4; hiddenDimension(8) = 0; clearText(); ";
+        ranks(t, great + "plant(N11000r+16+01+00o+0001)", 0);
+        hidden(t, great + "plant(N11000r+16+01+00o+0001)", 1);
+        hidden(t, great + "plant(N11000r+16+01+00o+0101)", 1, 0);
+        t.run(great + "plant(N11000r+16+01+00o+0101); free(0, 0) = 1; free(1, 0) = throws IndexOutOfBoundsException; touched() = 0",
+            "freeRange(0, true) = 1000; observabilityIndex() = 1");
     }
 
     // ---- promise 24
@@ -173,6 +191,9 @@ public final class ObservabilityTest {
         "- `q`: number of the combination, from 0", "- `j`: state", "Returns the factor of state j."})
     static void freeWithoutTheUnknownInput(Checks t) {
         t.run("free(0, 0) = 1");
+        t.run("plant(N41000r+16+00+00+00+00+00r+00+16+00+00+00+00r+00+00+16+00+00+00r+00+00+00+16+00+00o+01+00+00+0001)",
+            "free(3, 3) = 1; free(3, 0) = 0; free(0, 0) = 1; free(0, 3) = 0; free(4, 0) = throws IndexOutOfBoundsException",
+            "free(0, 4) = throws IndexOutOfBoundsException; freeRange(3, true) = 1000");
         t.run(three("+00", "+00", "+00") + "; free(0, 0) = 1; free(0, 1) = 0; free(0, 2) = 0; free(1, 0) = 0; free(1, 1) = 1",
             "free(1, 2) = 0; free(2, 0) = 0; free(2, 1) = 0; free(2, 2) = 1; free(3, 0) = throws IndexOutOfBoundsException");
     }

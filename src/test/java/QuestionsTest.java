@@ -249,6 +249,12 @@ public final class QuestionsTest {
         String both = "plant(N22090r+16+00+00+01r+00+16+00-01o+01+0005o+00+0105); read(0); read(1); step(0, 3); ";
         t.run(both + "unknown(false) = -9; unknown(true) = 9; read(0) = 0; unknown(false) = -4; unknown(true) = 4; undo()",
             "read(1) = -1; unknown(false) = 1; unknown(true) = 9; read(0); unknown(false) = 1; unknown(true) = 4");
+        // four states, and the one state of a plant that is loaded after a greater one
+        String four = "N41090r+16+00+00+00+00+01r+00+16+00+00+00+01r+00+00+16+00+00+01r+00+00+00+16+00+01o+00+00+00+0101";
+        t.run("plant(" + four + "); read(0); step(0, 3); unknown(false) = -9; unknown(true) = 9; read(0); unknown(false) = 3",
+            "unknown(true) = 3");
+        t.run("plant(" + four + "); clearText(); plant(N11040r+16+01+00o+0101); read(0); step(1, 4); read(0); unknown(false) = -4",
+            "unknown(true) = 4");
         // a state without it tells nothing of it
         t.run("plant(N11050r+16+01+00o+0105); read(0); step(2, 3); read(0); unknown(false) = -5; unknown(true) = 5");
         t.run("plant(N21050r+16+00+00+00r+00+16+00+01o+01+0001); read(0); step(0, 3); read(0); unknown(false) = -5; unknown(true) = 5");

@@ -47,6 +47,8 @@ public final class ScriptsTest {
         t.run("plant(N11030r+16+01+02o+0101); runScript(3, 225313807007) = NONE; runScript(3, 225313807006) = 2",
             "runScript(4, 2253132330007007) = NONE; runScript(4, 2253132330007006) = 3; runScript(4, 2253132330005007) = NONE",
             "runScript(4, 2253132330005008) = 3; runScript(2, 29907000) = NONE; runScript(1, 2253) = NONE; runScript(1, 2254) = 0");
+        t.run("setBound(9); runScript(2, 19987000) = 1; runScript(2, 19997000) = 1; runScript(2, 29987000) = NONE",
+            "runScript(2, 29997000) = NONE");
         t.run("runScript(1, 2990) = NONE; runScript(1, 2991) = 0; setBound(8); runScript(1, 2008) = NONE; runScript(1, 2009) = 0",
             "setBound(99); runScript(1, 2009) = NONE");
     }

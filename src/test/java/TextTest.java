@@ -34,10 +34,15 @@ public final class TextTest {
         systemText(t, longest);
         t.run("type(" + longest + ") = 200; append(48) = throws IllegalStateException; errorPosition() = NONE; load() = 2",
             "coefficient(5, 0, 1) = -15; coefficient(5, 1, 1) = 99; clearText() = 200");
-        String tooLong = PLAIN + repeated("g00-01", 29) + "g00+";
-        t.due("the length", tooLong.length(), 200);
-        t.run("type(" + tooLong + ") = 200; append(48) = throws IllegalStateException; load() = throws IllegalStateException",
-            "errorPosition() = 200; clearText() = 200");
+        // 200 characters that end behind each character of a gain but the last but one, where none can end
+        String[] plants = {"N41000" + repeated("r+00+01+02+03+04+05", 4) + "o+00+01+02+0304",
+            "N31000" + repeated("r+00+01+02+03+04", 3) + "o+00+01+0203", "N21000r+01+02+03+04r+05+06+07+08o+09+1011", PLAIN};
+        for (int i = 0; i < plants.length; i++) {
+            String full = (plants[i] + repeated("g00-01", 30)).substring(0, 200);
+            t.due("what the text ends with", full.endsWith("-01" + "g00-".substring(0, i + 1)), true);
+            t.run("type(" + full + ") = 200; errorPosition() = 200; append(48) = throws IllegalStateException",
+                "load() = throws IllegalStateException; errorPosition() = 200; clearText() = 200");
+        }
     }
 
     @Holds(promise = {4, 5}, in = "TEXT", sentence = "A system text is: the letter N, the digit n (1 to 4), the digit p (1"
