@@ -131,9 +131,8 @@ public final class ActionsTest {
         }
     }
 
-    @Holds(promise = {2, 6, 7, 8, 9, 12, 14, 15, 16, 17, 19, 20, 21, 22, 24, 26, 30, 31}, in = "EXCEPTIONS", sentence = {
-        "IllegalArgumentException means that another argument is out of its range.",
-        "IllegalStateException means what the method says."})
+    @Holds(promise = {2, 6, 7, 8, 9, 12, 14, 15, 16, 17, 19, 20, 21, 22, 24, 26, 30, 31}, in = "EXCEPTIONS",
+        sentence = "IllegalArgumentException means that another argument is out of its range.")
     static void argumentsOutOfTheirRanges(Checks t) {
         for (String n : new String[] {"-100", "256", "2147483647", "-2147483648"}) {
             String refused = ") = throws IllegalArgumentException; ";
@@ -145,6 +144,18 @@ public final class ActionsTest {
                 + "earliest(0, 0, " + n + ", true" + refused + "rankAfter(" + n + refused + "hiddenDimension(" + n + refused
                 + "runScript(" + n + ", 0" + refused + "simulate(0, " + n + refused);
         }
+    }
+
+    @Holds(promise = {2, 5, 9, 11, 18, 23, 33}, in = "EXCEPTIONS",
+        sentence = "IllegalStateException means what the method says.")
+    static void statesThatRefuse(Checks t) {
+        t.run("load() = throws IllegalStateException; output(0, 0) = throws IllegalStateException",
+            "place(0, 1001) = throws IllegalStateException; undo() = throws IllegalStateException",
+            "unknown(true) = throws IllegalStateException; restore(0) = throws IllegalStateException",
+            "200 times append(1); append(1) = throws IllegalStateException");
+        // the same calls in another state
+        t.run("plant(N11000r+16+01+00o+0101); load() = 1; step(1, 0); read(0); output(0, 0) = 1; place(0, 1) = 1",
+            "unknown(true) = 0; save(0) = 1; undo() = 2; restore(0) = 1; append(1) = 23");
     }
 
     @Holds(promise = {2, 8, 9, 11, 14, 15, 20, 21, 22, 33}, in = "EXCEPTIONS", sentence = "If several exceptions apply to a"
@@ -235,8 +246,27 @@ public final class ActionsTest {
 
     // ---- promise 12
 
+    @Holds(promise = 12, sentence = "- `u`: the input, -99 to 99")
+    static void leastAndGreatestInput(Checks t) {
+        t.run("step(99, 0) = 1; state(0, 0) = 99; step(-99, 0) = 2; state(0, 0) = 0; step(-99, 0) = 3; state(0, 0) = -99",
+            "step(0, 0) = 4; state(0, 0) = -99; step(100, 0) = throws IllegalArgumentException",
+            "step(-100, 0) = throws IllegalArgumentException; about(4) = 4");
+    }
+
+    @Holds(promise = 12, sentence = "- `d`: the unknown input, -bound to bound")
+    static void leastAndGreatestUnknownInput(Checks t) {
+        for (int bound : new int[] {0, 1, 50, 99}) {
+            t.run("plant(N11000r+16+00+01o+0101); setBound(" + bound + "); step(0, " + bound + ") = 1; state(0, 0) = " + bound,
+                "step(0, " + (bound + 1) + ") = throws IllegalArgumentException; step(0, " + -bound + ") = 2; state(0, 0) = 0",
+                "step(0, " + (-bound - 1) + ") = throws IllegalArgumentException; step(0, 0) = 3");
+        }
+        // the bound that counts is the one of now, not that of the text or of the last step
+        t.run("plant(N11050r+16+00+01o+0101); step(0, 5); setBound(6); step(0, 6) = 2; setBound(4); step(0, 5) = throws IllegalArgumentException",
+            "undo(); step(0, -6) = 3; undo(); undo(); undo(); step(0, 6) = throws IllegalArgumentException; step(0, -5) = 2");
+    }
+
     @Holds(promise = 12, sentence = {"Makes a step. The true values, the intervals and the estimates change as described"
-        + " above;", "- `u`: the input, -99 to 99", "- `d`: the unknown input, -bound to bound", "Returns the time then."})
+        + " above;", "Returns the time then."})
     static void step(Checks t) {
         t.run("plant(N21050r+10-07+02+01r+03+05-01-03o+01+0001); place(0, 7); place(1, -9); step(4, -2) = 1; state(0, 0) = 14",
             "state(0, 1) = -1060; state(0, 2) = 1075; state(0, 3) = 128; state(1, 0) = 0; state(1, 1) = -519; state(1, 2) = 511",
@@ -316,8 +346,15 @@ public final class ActionsTest {
         t.run("shave(0, 100) = 0; step(0, 0); shave(0, 1) = 0; undo() = 2");
     }
 
-    @Holds(promise = 14, sentence = {"At most m times: if tightening would fail with the lower bound as the only value of this"
-        + " state, the lower bound increases by 1; otherwise this part ends.", "- `m`: 1 to 100"})
+    @Holds(promise = 14, sentence = "- `m`: 1 to 100")
+    static void fewestAndMostValues(Checks t) {
+        t.run(SUM_AND_DIFFERENCE + "; read(0); read(1); shave(0, 1) = 2; state(0, 1) = -999; state(0, 2) = 999; shave(0, 100) = 200",
+            "state(0, 1) = -899; state(0, 2) = 899; shave(0, 101) = throws IllegalArgumentException",
+            "shave(0, 0) = throws IllegalArgumentException; state(0, 1) = -899");
+    }
+
+    @Holds(promise = 14, sentence = "At most m times: if tightening would fail with the lower bound as the only value of this"
+        + " state, the lower bound increases by 1; otherwise this part ends.")
     static void shavedLowerBound(Checks t) {
         t.run(SUM_AND_DIFFERENCE + "; read(0); read(1); shave(0, 1) = 2; state(0, 1) = -999; shave(0, 100) = 200; state(0, 1) = -899",
             "8 times shave(0, 100) = 200; state(0, 1) = -99; shave(0, 100) = 198; state(0, 1) = 0; state(0, 2) = 0",
@@ -366,8 +403,16 @@ public final class ActionsTest {
 
     // ---- promise 15
 
-    @Holds(promise = 15, sentence = {"Changes a gain.", "- `i`: state", "- `k`: output", "- `v`: new gain, -99 to 99",
-        "Returns the previous gain."})
+    @Holds(promise = 15, sentence = "- `v`: new gain, -99 to 99")
+    static void leastAndGreatestGain(Checks t) {
+        t.run("setGain(0, 0, 99) = 0; coefficient(5, 0, 0) = 99; setGain(0, 0, -99) = 99; coefficient(5, 0, 0) = -99",
+            "setGain(0, 0, 0) = -99; coefficient(5, 0, 0) = 0");
+        // 99 * 16 * 1000, and the same with -99
+        t.run("place(0, 1000); read(0); setGain(0, 0, 99); step(0, 0); state(0, 3) = 99000; undo(); setGain(0, 0, -99); step(0, 0)",
+            "state(0, 3) = -99000");
+    }
+
+    @Holds(promise = 15, sentence = {"Changes a gain.", "- `i`: state", "- `k`: output", "Returns the previous gain."})
     static void changedGain(Checks t) {
         t.run("plant(N22000r+16+00+00+00r+00+16+00+00o+01+0101o+01-0101g10+07); setGain(1, 0, -99) = 7; setGain(1, 0, 99) = -99",
             "setGain(0, 1, 5) = 0; coefficient(5, 1, 0) = 99; coefficient(5, 0, 1) = 5; coefficient(5, 0, 0) = 0",
@@ -393,9 +438,16 @@ public final class ActionsTest {
 
     // ---- promise 16
 
-    @Holds(promise = 16, sentence = {"Changes the hold.", "- `v`: new hold, 0 to 9", "Returns the previous hold."})
+    @Holds(promise = 16, sentence = {"Changes the hold.", "Returns the previous hold."})
     static void changedHold(Checks t) {
-        t.run("setHold(9) = 0; setHold(0) = 9; about(3) = 0; undo() = 1; about(3) = 9; setHold(4) = 9; about(3) = 4");
+        t.run("setHold(2) = 0; setHold(5) = 2; about(3) = 5; undo() = 1; about(3) = 2; setHold(4) = 2; about(3) = 4; setHold(4) = 4");
+    }
+
+    @Holds(promise = 16, sentence = "- `v`: new hold, 0 to 9")
+    static void leastAndGreatestHold(Checks t) {
+        for (int v = 0; v <= 9; v++) {
+            t.run("setHold(" + v + ") = 0; about(3) = " + v + "; setHold(0) = " + v + "; about(3) = 0; setHold(9) = 0; about(3) = 9");
+        }
     }
 
     @Holds(promise = 16, sentence = "Throws `IllegalArgumentException` if v is out of range")
@@ -407,8 +459,15 @@ public final class ActionsTest {
 
     // ---- promise 17
 
-    @Holds(promise = 17, sentence = {"Changes the bound of the unknown input in future steps.", "- `v`: new bound, 0 to 99",
-        "Returns the previous bound."})
+    @Holds(promise = 17, sentence = "- `v`: new bound, 0 to 99")
+    static void leastAndGreatestBound(Checks t) {
+        for (int v : new int[] {0, 1, 9, 10, 50, 98, 99}) {
+            t.run("plant(N11000r+16+00+01o+0101); setBound(" + v + ") = 0; about(2) = " + v + "; step(0, 0)",
+                "state(0, 1) = " + (-1000 - v) + "; state(0, 2) = " + (1000 + v) + "; setBound(0) = " + v + "; setBound(99) = 0");
+        }
+    }
+
+    @Holds(promise = 17, sentence = {"Changes the bound of the unknown input in future steps.", "Returns the previous bound."})
     static void changedBound(Checks t) {
         t.run("plant(N11000r+16+01+02o+0101); setBound(99) = 0; setBound(3) = 99; about(2) = 3; step(0, -3); state(0, 0) = -6",
             "state(0, 1) = -1006; state(0, 2) = 1006; setBound(0) = 3; state(0, 1) = -1006; step(0, 0); state(0, 1) = -1006",

@@ -122,9 +122,15 @@ public final class ObservabilityTest {
 
     // ---- promise 24
 
-    @Holds(promise = 24, sentence = {"Returns the rank after k.", "- `k`: 1 to 8", "Returns the rank."})
+    @Holds(promise = 24, sentence = "- `k`: 1 to 8")
+    static void leastAndGreatestPower(Checks t) {
+        t.run("rankAfter(1) = 1; rankAfter(8) = 1; rankAfter(0) = throws IllegalArgumentException",
+            "rankAfter(9) = throws IllegalArgumentException");
+        t.run("plant(N11000r+00+00+00o+0001); rankAfter(1) = 0; rankAfter(8) = 0");
+    }
+
+    @Holds(promise = 24, sentence = {"Returns the rank after k.", "Returns the rank."})
     static void rankAfter(Checks t) {
-        t.run("rankAfter(1) = 1; rankAfter(8) = 1");
         t.run(chain("+01", "+02", "+03") + "; rankAfter(1) = 1; rankAfter(8) = 3; rankAfter(2) = 2; rankAfter(1) = 1");
     }
 
@@ -155,9 +161,15 @@ public final class ObservabilityTest {
 
     // ---- promise 26
 
-    @Holds(promise = 26, sentence = {"Returns a hidden dimension.", "- `k`: 0 to 8", "Returns the hidden dimension k."})
+    @Holds(promise = 26, sentence = "- `k`: 0 to 8")
+    static void leastAndGreatestRound(Checks t) {
+        t.run("hiddenDimension(0) = 1; hiddenDimension(1) = 0; hiddenDimension(8) = 0; hiddenDimension(0) = 1",
+            "hiddenDimension(-1) = throws IllegalArgumentException; hiddenDimension(9) = throws IllegalArgumentException");
+        t.run("plant(N11000r+00+00+00o+0001); hiddenDimension(0) = 1; hiddenDimension(8) = 1");
+    }
+
+    @Holds(promise = 26, sentence = {"Returns a hidden dimension.", "Returns the hidden dimension k."})
     static void hiddenDimension(Checks t) {
-        t.run("hiddenDimension(0) = 1; hiddenDimension(1) = 0; hiddenDimension(8) = 0; hiddenDimension(0) = 1");
         t.run(chain("+00", "+01", "+00") + "; hiddenDimension(8) = 1; hiddenDimension(0) = 3; hiddenDimension(1) = 2");
     }
 

@@ -113,14 +113,20 @@ public final class QuestionsTest {
         t.run("plant(N13000r+16+01+00o+0101o+0101o+0101); widthIf(2, 0) = 0; widthIf(3, 0) = throws IndexOutOfBoundsException");
     }
 
-    @Holds(promise = 20, sentence = {"- `y`: the reading, -1000000 to 1000000",
-        "Throws `IllegalArgumentException` if y is out of range"})
-    static void readingOutOfRange(Checks t) {
-        t.run("widthIf(0, 1000000) = NONE; widthIf(0, -1000000) = NONE; widthIf(0, 1000001) = throws IllegalArgumentException",
-            "widthIf(0, -1000001) = throws IllegalArgumentException; widthIf(0, 2147483647) = throws IllegalArgumentException",
-            "widthIf(0, -2147483648) = throws IllegalArgumentException");
+    @Holds(promise = 20, sentence = "- `y`: the reading, -1000000 to 1000000")
+    static void leastAndGreatestReading(Checks t) {
+        t.run("widthIf(0, 1000000) = NONE; widthIf(0, -1000000) = NONE");
         t.run("plant(N11000r+99+00+00o+0101); 4 times step(0, 0); widthIf(0, 1000000) = 0; widthIf(0, -1000000) = 0",
             "widthIf(0, 1000001) = throws IllegalArgumentException");
+        // with a quantum the range goes from 99000000 to 99000098, or from -99000000 to -98999902
+        t.run("plant(N11000r+99+00+00o+9999); 4 times step(0, 0); widthIf(0, 1000000) = 0; widthIf(0, -1000000) = 0",
+            "widthIf(0, 999999) = 0; widthIf(0, -999999) = 0");
+    }
+
+    @Holds(promise = 20, sentence = "Throws `IllegalArgumentException` if y is out of range")
+    static void readingOutOfRange(Checks t) {
+        t.run("widthIf(0, 1000001) = throws IllegalArgumentException; widthIf(0, -1000001) = throws IllegalArgumentException",
+            "widthIf(0, 2147483647) = throws IllegalArgumentException; widthIf(0, -2147483648) = throws IllegalArgumentException");
     }
 
     // ---- promise 21

@@ -132,9 +132,22 @@ public final class ScriptsTest {
         }
     }
 
-    @Holds(promise = 30, sentence = {"- `n`: number of commands, 1 to 4",
-        "- `script`: the commands, a number of at most 4 * n digits (0 or more)",
-        "Returns the index, from 0, of the first command that fails; NONE if all succeed."})
+    @Holds(promise = 30, sentence = "- `n`: number of commands, 1 to 4")
+    static void fewestAndMostCommands(Checks t) {
+        t.run("runScript(1, 3000) = NONE; runScript(4, 3000300030003000) = NONE; runScript(0, 0) = throws IllegalArgumentException",
+            "runScript(5, 0) = throws IllegalArgumentException; runScript(5, 30003000) = throws IllegalArgumentException");
+    }
+
+    @Holds(promise = 30, sentence = "Returns the index, from 0, of the first command that fails; NONE if all succeed.")
+    static void firstCommandThatFails(Checks t) {
+        t.run("runScript(4, 9999999999999999) = 0; runScript(4, 3000999999999999) = 1; runScript(4, 3000300099999999) = 2",
+            "runScript(4, 3000300030009999) = 3; runScript(4, 3000300030003000) = NONE; runScript(3, 300099993000) = 1",
+            "runScript(4, 3000999930003000) = 1");
+        // what stands behind the command that fails is not run: only the step that comes first is made
+        t.run("runScript(3, 110099991100) = 1; runScript(3, 110011007020) = NONE; runScript(3, 110011007019) = 2");
+    }
+
+    @Holds(promise = 30, sentence = "- `script`: the commands, a number of at most 4 * n digits (0 or more)")
     static void shortScripts(Checks t) {
         // leading zeros belong to the commands
         t.run("runScript(1, 0) = 0; runScript(2, 0) = 0; runScript(3, 0) = 0; runScript(4, 0) = 0; runScript(2, 3000) = 0",
@@ -203,7 +216,14 @@ public final class ScriptsTest {
     }
 
     /** In a new object the interval keeps its width 2000 until the first reading, and has none after it. */
-    @Holds(promise = 31, sentence = {"- `seed`: any long", "- `m`: number of rounds, 1 to 100"})
+    @Holds(promise = 31, sentence = "- `m`: number of rounds, 1 to 100")
+    static void fewestAndMostRounds(Checks t) {
+        String shut = "plant(N11010r+16+00+01o+0001); ";
+        // nothing is shown, so that the width grows by 2 in each round
+        t.run(shut + "simulate(9L, 1) = 2002; simulate(9L, 2) = 4006; simulate(9L, 100) = 210100; simulate(9L, 99) = 207900");
+    }
+
+    @Holds(promise = 31, sentence = "- `seed`: any long")
     static void firstReadingOfASimulation(Checks t) {
         for (long seed = -40; seed < 40; seed++) {
             for (int m = 1; m <= 5; m++) {
@@ -244,7 +264,14 @@ public final class ScriptsTest {
 
     // ---- promise 32
 
-    @Holds(promise = 32, sentence = {"Stores the present state in a slot.", "- `slot`: 0 or 1", "Returns the time."})
+    @Holds(promise = 32, sentence = "- `slot`: 0 or 1")
+    static void bothSlots(Checks t) {
+        t.run("setHold(3); save(0) = 0; setHold(4); save(1) = 0; setHold(5); restore(0) = 0; about(3) = 3; restore(1) = 0; about(3) = 4",
+            "save(0) = 0; restore(0) = 0; about(3) = 4; save(2) = throws IndexOutOfBoundsException",
+            "save(-1) = throws IndexOutOfBoundsException");
+    }
+
+    @Holds(promise = 32, sentence = {"Stores the present state in a slot.", "Returns the time."})
     static void savedState(Checks t) {
         t.run("save(0) = 0; step(5, 0); save(1) = 1; step(5, 0); save(1) = 2; undo() = 1; restore(1) = 2; state(0, 0) = 10",
             "restore(0) = 0; state(0, 0) = 0; restore(1) = 2");
@@ -260,7 +287,13 @@ public final class ScriptsTest {
 
     // ---- promise 33
 
-    @Holds(promise = 33, sentence = {"Replaces the state by the one in a slot,", "- `slot`: 0 or 1"})
+    @Holds(promise = 33, sentence = "- `slot`: 0 or 1")
+    static void bothSlotsAgain(Checks t) {
+        t.run("step(7, 0); save(1) = 1; step(1, 0); save(0) = 2; step(1, 0); restore(1) = 1; state(0, 0) = 7; restore(0) = 2",
+            "state(0, 0) = 8; restore(2) = throws IndexOutOfBoundsException; restore(-1) = throws IndexOutOfBoundsException");
+    }
+
+    @Holds(promise = 33, sentence = "Replaces the state by the one in a slot,")
     static void restoredState(Checks t) {
         String saved = "plant(N11054r+16+01+01o+0101g00+16); place(0, 40); read(0); step(3, -2); read(0); step(1, 0); save(1); ";
         String changed = "setGain(0, 0, 0); setHold(0); setBound(0); step(0, 0); read(0); place(0, 42); ";
