@@ -544,6 +544,10 @@ public final class StateObserver {
         return divisor == 0 ? 0 : Math.floorDiv(value, divisor);
     }
 
+    private static int quotient(int value, int divisor) {
+        return divisor == 0 ? 0 : value / divisor;
+    }
+
     private static int remainder(int value, int divisor) {
         return divisor == 0 ? 0 : value % divisor;
     }
@@ -691,8 +695,8 @@ public final class StateObserver {
             }
             int s = q < t ? q : q + 1;
             int g = commonDivisor(e[s], e[t]);
-            factors[s] = Math.abs(e[t]) / g;
-            factors[t] = (e[t] > 0 ? -e[s] : e[s]) / g;
+            factors[s] = quotient(Math.abs(e[t]), g);
+            factors[t] = quotient(e[t] > 0 ? -e[s] : e[s], g);
         }
     }
 
@@ -1024,7 +1028,7 @@ public final class StateObserver {
 
         /** The rank of the rows of C, C * A, and so on, k powers of A in all. */
         int ofPowers(Plant plant, int k) {
-            space.rank = 0;
+            space.clear();
             for (int o = 0; o < plant.p; o++) {
                 putOutput(plant, o, block[o]);
             }
@@ -1044,9 +1048,9 @@ public final class StateObserver {
          * just if w * A * x = 0 for all those rows w of it for which w * e = 0.
          */
         int ofVisible(Plant plant, int k) {
-            space.rank = 0;
+            space.clear();
             for (int round = 0; round < k; round++) {
-                nextSpace.rank = 0;
+                nextSpace.clear();
                 for (int o = 0; o < plant.p; o++) {
                     putOutput(plant, o, vector);
                     nextSpace.include(vector, plant.n);
@@ -1059,10 +1063,10 @@ public final class StateObserver {
 
         private void includeEarlier(Plant plant) {
             int chosen = putEffects(plant);
-            for (int r = 0; r < space.rank; r++) {
+            for (int r = 0; r < plant.n; r++) {
                 if (r != chosen) {
                     copyRow(space.rows[r], vector);
-                    if (chosen < space.rank) {
+                    if (chosen < plant.n) {
                         removeLead(vector, effect[r], space.rows[chosen], effect[chosen], plant.n);
                     }
                     multiply(plant, vector);
@@ -1071,10 +1075,10 @@ public final class StateObserver {
             }
         }
 
-        /** Computes w * e for all rows of the space; returns the first one for which it is not 0, or the rank. */
+        /** Computes w * e for all rows of the space; returns the first one for which it is not 0, or n. */
         private int putEffects(Plant plant) {
-            int chosen = space.rank;
-            for (int r = space.rank - 1; r >= 0; r--) {
+            int chosen = plant.n;
+            for (int r = plant.n - 1; r >= 0; r--) {
                 long sum = 0;
                 for (int j = 0; j < plant.n; j++) {
                     sum += space.rows[r][j] * plant.e[j];
@@ -1106,31 +1110,40 @@ public final class StateObserver {
         }
     }
 
-    /** The space of all sums of multiples of some rows, each of which is 0 where an earlier one has its lead. */
+    /**
+     * The space of all sums of multiples of some rows: row j is 0 before its place j and not 0 there; where no
+     * row has its lead at j, row j is 0.
+     */
     private static final class Space {
         final long[][] rows = new long[STATES][STATES];
-        final int[] lead = new int[STATES];
         int rank;
+
+        void clear() {
+            rank = 0;
+            for (int j = 0; j < STATES; j++) {
+                for (int i = 0; i < STATES; i++) {
+                    rows[j][i] = 0;
+                }
+            }
+        }
 
         void copyFrom(Space other) {
             rank = other.rank;
-            copyRow(other.lead, lead);
-            for (int r = 0; r < STATES; r++) {
-                copyRow(other.rows[r], rows[r]);
+            for (int j = 0; j < STATES; j++) {
+                copyRow(other.rows[j], rows[j]);
             }
         }
 
         /** Includes a vector, which is changed by that. */
         void include(long[] vector, int n) {
-            for (int r = 0; r < rank; r++) {
-                removeLead(vector, vector[lead[r]], rows[r], rows[r][lead[r]], n);
-            }
-            for (int j = 0; j < n && rank < STATES; j++) {
-                if (vector[j] != 0) {
-                    copyRow(vector, rows[rank]);
-                    lead[rank] = j;
+            for (int j = 0; j < n; j++) {
+                if (vector[j] != 0 && rows[j][j] == 0) {
+                    copyRow(vector, rows[j]);
                     rank++;
                     return;
+                }
+                if (vector[j] != 0) {
+                    removeLead(vector, vector[j], rows[j], rows[j][j], n);
                 }
             }
         }

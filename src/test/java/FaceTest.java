@@ -91,6 +91,18 @@ public final class FaceTest {
         }
     }
 
+    /** Whether the document has a method of that name with so many parameters. */
+    static boolean isOfTheFace(String name, int parameters) {
+        for (String method : FACE) {
+            String list = method.substring(method.indexOf('(') + 1, method.indexOf(')'));
+            int size = list.isEmpty() ? 0 : list.split(",").length;
+            if (method.startsWith(name + "(", method.indexOf(' ') + 1) && size == parameters) {
+                return true;
+            }
+        }
+        return name.equals("<init>") && parameters == 0;
+    }
+
     private static String described(Method m) {
         StringBuilder s = new StringBuilder();
         if (m.getModifiers() != Modifier.PUBLIC) {
