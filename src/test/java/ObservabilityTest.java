@@ -108,6 +108,42 @@ public final class ObservabilityTest {
             4, 3, 2, 1, 0);
     }
 
+    /** Each state follows a neighbour, and the output is the state at one end: it sees as far as e does not act. */
+    @Holds(promise = 26, in = "OBSERVABILITY",
+        sentence = "and V(k + 1) the space of those x for which C * x is 0 and A * x is the sum of a vector of V(k)")
+    static void unknownInputAtEachState(Checks t) {
+        for (int n = 1; n <= 4; n++) {
+            for (int s = 0; s < n; s++) {
+                int[] seenFromTheFirst = new int[s + 2];
+                for (int k = 0; k < seenFromTheFirst.length; k++) {
+                    seenFromTheFirst[k] = n - k;
+                }
+                hidden(t, neighbours(n, s, 1), seenFromTheFirst);
+                int[] seenFromTheLast = new int[n - s + 1];
+                for (int k = 0; k < seenFromTheLast.length; k++) {
+                    seenFromTheLast[k] = n - k;
+                }
+                hidden(t, neighbours(n, s, -1), seenFromTheLast);
+            }
+        }
+    }
+
+    private static String neighbours(int n, int acted, int way) {
+        StringBuilder plant = new StringBuilder("plant(N").append(n).append("1000");
+        for (int i = 0; i < n; i++) {
+            plant.append('r');
+            for (int j = 0; j < n; j++) {
+                plant.append(j == i + way ? "+16" : "+00");
+            }
+            plant.append("+00").append(i == acted ? "-03" : "+00");
+        }
+        plant.append('o');
+        for (int j = 0; j < n; j++) {
+            plant.append(j == (way > 0 ? 0 : n - 1) ? "+02" : "+00");
+        }
+        return plant.append("01)").toString();
+    }
+
     /** Nothing of a greater plant counts any more when a smaller one is loaded. */
     @Holds(promise = {5, 24, 25, 26, 27, 28, 29}, sentence = "Replaces the plant by that of the text,")
     static void smallerPlantAfterAGreaterOne(Checks t) {
